@@ -30,6 +30,7 @@ public final class GameTables {
     private Player column = new Player();
     private final Dropping dropping = new Dropping();
     private final int[] refusals = new int[LAST_REFUSAL + 1];
+    private boolean cornersKnown = false;
 
     public GameTables() {
     }
@@ -43,7 +44,7 @@ public final class GameTables {
         }
         row.startAnew(m);
         column.startAnew(n);
-        forgetCorners();
+        cornersKnown = false;
         return 1;
     }
 
@@ -61,7 +62,7 @@ public final class GameTables {
         int others = who == 0 ? k : i;
         int before = player(who).payFor(own, others);
         player(who).setPay(own, others, v);
-        forgetCorners();
+        cornersKnown = false;
         return before;
     }
 
@@ -166,14 +167,19 @@ public final class GameTables {
     }
 
     public int corners(int who) {
-        return isWho(who) ? cornersOf(who).count : refuse(NOBODY);
+        if (!isWho(who)) {
+            return refuse(NOBODY);
+        }
+        knowCorners();
+        return player(who).ownCorners.count;
     }
 
     public int corner(int who, int c, int choice, int what) {
         if (!isWho(who) || !player(who).hasChoice(choice)) {
             return refuse(NOBODY);
         }
-        Mix mix = cornersOf(who).mixAt(c);
+        knowCorners();
+        Mix mix = player(who).ownCorners.mixAt(c);
         if (mix == null) {
             return refuse(NOBODY);
         }
@@ -184,14 +190,19 @@ public final class GameTables {
     }
 
     public int balances() {
+        knowCorners();
         return balancesBefore(MOST_CORNERS, 0);
     }
 
     public long balance(int b, int what) {
+        knowCorners();
         int pair = pairOf(b);
-        Mix rows = cornersOf(0).mixAt(pair / MOST_CORNERS);
-        Mix columns = cornersOf(1).mixAt(pair % MOST_CORNERS);
-        if (pair == NONE || rows == null || columns == null) {
+        if (pair == NONE) {
+            return refuseAmongLongs(NOBODY);
+        }
+        Mix rows = row.ownCorners.mixAt(pair / MOST_CORNERS);
+        Mix columns = column.ownCorners.mixAt(pair % MOST_CORNERS);
+        if (rows == null || columns == null) {
             return refuseAmongLongs(NOBODY);
         }
         if (what < 0 || what > 6) {
@@ -218,8 +229,9 @@ public final class GameTables {
         if (rows == null || columns == null) {
             return refuse(STATE);
         }
-        int rowsCorner = cornersOf(0).numberOf(rows);
-        int columnsCorner = cornersOf(1).numberOf(columns);
+        knowCorners();
+        int rowsCorner = row.ownCorners.numberOf(rows);
+        int columnsCorner = column.ownCorners.numberOf(columns);
         if (rowsCorner == NONE || columnsCorner == NONE || !rows.fits(columns)) {
             return NONE;
         }
@@ -246,7 +258,7 @@ public final class GameTables {
             return refuse(ROOM);
         }
         raised.addAgainst(choice, v);
-        forgetCorners();
+        cornersKnown = false;
         return 1;
     }
 
@@ -262,7 +274,7 @@ public final class GameTables {
             return refuse(ROOM);
         }
         player(who).multiplyPays(v);
-        forgetCorners();
+        cornersKnown = false;
         return 1;
     }
 
@@ -277,7 +289,8 @@ public final class GameTables {
             case 3:
                 return row.isLike(column) ? 1 : 0;
             case 4:
-                return cornersOf(0).count + cornersOf(1).count;
+                knowCorners();
+                return row.ownCorners.count + column.ownCorners.count;
             default:
                 return refusalsCounted(what);
         }
@@ -322,32 +335,28 @@ public final class GameTables {
         return player(who).trayMix(player(1 - who));
     }
 
-    private void forgetCorners() {
-        row.ownCorners.known = false;
-        column.ownCorners.known = false;
-    }
-
-    private Corners cornersOf(int who) {
-        Corners found = player(who).ownCorners;
-        if (!found.known) {
-            found.searchAll(player(who), player(1 - who));
+    /** To be called ahead of all that looks at corners: they are searched when first asked for. */
+    private void knowCorners() {
+        if (!cornersKnown) {
+            row.ownCorners.searchAll(row.allBits(), column);
+            column.ownCorners.searchAll(column.allBits(), row);
+            cornersKnown = true;
         }
-        return found;
     }
 
     /** How many balances are numbered ahead of the one that these two corners would be. */
     private int balancesBefore(int rowsCorner, int columnsCorner) {
         int number = 0;
-        for (int r = 0; r < cornersOf(0).count && r <= rowsCorner; r++) {
+        for (int r = 0; r < row.ownCorners.count && r <= rowsCorner; r++) {
             int end = r < rowsCorner ? MOST_CORNERS : columnsCorner;
-            number += balancesOf(cornersOf(0).mixAt(r), end);
+            number += balancesOf(row.ownCorners.mixAt(r), end);
         }
         return number;
     }
 
     /** How many of COLUMN's corners ahead of end make a balance with this mix of ROW's. */
     private int balancesOf(Mix rows, int end) {
-        Corners columns = cornersOf(1);
+        Corners columns = column.ownCorners;
         int number = 0;
         for (int c = 0; c < columns.count && c < end; c++) {
             Mix mix = columns.mixAt(c);
@@ -361,10 +370,10 @@ public final class GameTables {
     /** ROW's corner times MOST_CORNERS, and COLUMN's, of a balance; NONE without such a one. */
     private int pairOf(int b) {
         int ahead = 0;
-        for (int r = 0; r < cornersOf(0).count && ahead <= b; r++) {
-            Mix rows = cornersOf(0).mixAt(r);
-            for (int c = 0; c < cornersOf(1).count && ahead <= b; c++) {
-                Mix columns = cornersOf(1).mixAt(c);
+        for (int r = 0; r < row.ownCorners.count && ahead <= b; r++) {
+            Mix rows = row.ownCorners.mixAt(r);
+            for (int c = 0; c < column.ownCorners.count && ahead <= b; c++) {
+                Mix columns = column.ownCorners.mixAt(c);
                 if (rows != null && columns != null && rows.fits(columns)) {
                     if (ahead == b) {
                         return r * MOST_CORNERS + c;
@@ -689,13 +698,12 @@ public final class GameTables {
      * of tied answers.
      */
     private static final class Corners {
-        boolean known;
         int count;
         /** Filled as far as ever needed; mixes beyond count are kept to be used again. */
         private final Mix[] places = new Mix[MOST_CORNERS];
         private Mix spare = new Mix();
         /** By how much each tied answer but the first pays more than the first, a row each. */
-        private final long[] gaps = new long[(MOST_CHOICES - 1) * MOST_CHOICES];
+        private final long[][] gaps = new long[MOST_CHOICES - 1][MOST_CHOICES];
 
         Mix mixAt(int c) {
             return c >= 0 && c < count && c < MOST_CORNERS ? places[c] : null;
@@ -711,16 +719,15 @@ public final class GameTables {
             return NONE;
         }
 
-        void searchAll(Player who, Player other) {
+        void searchAll(int ownBits, Player other) {
             count = 0;
-            for (int used = 1; used <= who.allBits(); used++) {
+            for (int used = 1; used <= ownBits; used++) {
                 for (int tied = 1; tied <= other.allBits(); tied++) {
                     if (Integer.bitCount(used) == Integer.bitCount(tied)) {
                         search(used, tied, other);
                     }
                 }
             }
-            known = true;
         }
 
         private void search(int used, int tied, Player other) {
@@ -748,10 +755,10 @@ public final class GameTables {
         }
 
         private void layLine(int line, int used, Player other, int first, int answer) {
-            int place = line * MOST_CHOICES;
+            int place = 0;
             for (int choice = 0; choice < MOST_CHOICES; choice++) {
                 if (hasBit(used, choice)) {
-                    gaps[place] = other.payFor(answer, choice) - other.payFor(first, choice);
+                    gaps[line][place] = other.payFor(answer, choice) - other.payFor(first, choice);
                     place++;
                 }
             }
@@ -782,22 +789,18 @@ public final class GameTables {
                 case 0:
                     return 1;
                 case 1:
-                    return gap(0, a);
+                    return gaps[0][a];
                 case 2:
                     return twoLines(0, 1, a, b);
                 default:
-                    return gap(0, a) * twoLines(1, 2, b, c)
-                        - gap(0, b) * twoLines(1, 2, a, c)
-                        + gap(0, c) * twoLines(1, 2, a, b);
+                    return gaps[0][a] * twoLines(1, 2, b, c)
+                        - gaps[0][b] * twoLines(1, 2, a, c)
+                        + gaps[0][c] * twoLines(1, 2, a, b);
             }
         }
 
         private long twoLines(int upper, int lower, int a, int b) {
-            return gap(upper, a) * gap(lower, b) - gap(upper, b) * gap(lower, a);
-        }
-
-        private long gap(int line, int place) {
-            return gaps[line * MOST_CHOICES + place];
+            return gaps[upper][a] * gaps[lower][b] - gaps[upper][b] * gaps[lower][a];
         }
 
         /** False if the parts of the used choices are not all above 0, or all below. */

@@ -1,3 +1,5 @@
+import java.lang.reflect.Method;
+import java.util.Arrays;
 import java.util.Random;
 
 /** Runs of calls by a fixed seed, each answer compared with that of Reference. */
@@ -162,68 +164,23 @@ public final class RandomRunsTest {
         if (wrong > 0) {
             return;
         }
-        calls.append(name).append(java.util.Arrays.toString(a)).append('\n');
-        long got = ask(name, a);
-        long due = askReference(name, a);
+        calls.append(name).append(Arrays.toString(a)).append('\n');
+        long got = ask(program, name, a);
+        long due = ask(reference, name, a);
         if (got != due) {
             wrong++;
             System.out.println(calls + "answered " + got + ", due is " + due);
         }
     }
 
-    private long ask(String name, int[] a) {
-        GameTables x = program;
-        switch (name) {
-            case "game": return x.game(a[0], a[1]);
-            case "pay": return x.pay(a[0], a[1], a[2], a[3]);
-            case "paid": return x.paid(a[0], a[1], a[2]);
-            case "weight": return x.weight(a[0], a[1], a[2]);
-            case "mean": return x.mean(a[0], a[1]);
-            case "answers": return x.answers(a[0]);
-            case "is": return x.is();
-            case "why": return x.why();
-            case "worse": return x.worse(a[0], a[1]);
-            case "left": return x.left(a[0]);
-            case "times": return x.times();
-            case "sure": return x.sure(a[0]);
-            case "hold": return x.hold(a[0]);
-            case "corners": return x.corners(a[0]);
-            case "corner": return x.corner(a[0], a[1], a[2], a[3]);
-            case "balances": return x.balances();
-            case "balance": return x.balance(a[0], a[1]);
-            case "find": return x.find();
-            case "turn": return x.turn();
-            case "raise": return x.raise(a[0], a[1], a[2]);
-            case "scale": return x.scale(a[0], a[1]);
-            default: return x.status(a[0]);
-        }
-    }
-
-    private long askReference(String name, int[] a) {
-        Reference x = reference;
-        switch (name) {
-            case "game": return x.game(a[0], a[1]);
-            case "pay": return x.pay(a[0], a[1], a[2], a[3]);
-            case "paid": return x.paid(a[0], a[1], a[2]);
-            case "weight": return x.weight(a[0], a[1], a[2]);
-            case "mean": return x.mean(a[0], a[1]);
-            case "answers": return x.answers(a[0]);
-            case "is": return x.is();
-            case "why": return x.why();
-            case "worse": return x.worse(a[0], a[1]);
-            case "left": return x.left(a[0]);
-            case "times": return x.times();
-            case "sure": return x.sure(a[0]);
-            case "hold": return x.hold(a[0]);
-            case "corners": return x.corners(a[0]);
-            case "corner": return x.corner(a[0], a[1], a[2], a[3]);
-            case "balances": return x.balances();
-            case "balance": return x.balance(a[0], a[1]);
-            case "find": return x.find();
-            case "turn": return x.turn();
-            case "raise": return x.raise(a[0], a[1], a[2]);
-            case "scale": return x.scale(a[0], a[1]);
-            default: return x.status(a[0]);
+    private static long ask(Object asked, String name, int[] arguments) {
+        Class<?>[] types = new Class<?>[arguments.length];
+        Arrays.fill(types, int.class);
+        try {
+            Method method = asked.getClass().getDeclaredMethod(name, types);
+            return ((Number) method.invoke(asked, Arrays.stream(arguments).boxed().toArray())).longValue();
+        } catch (ReflectiveOperationException e) {
+            throw new IllegalStateException(name + Arrays.toString(arguments), e);
         }
     }
 }
