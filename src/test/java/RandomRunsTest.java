@@ -2,8 +2,11 @@ import java.lang.reflect.Method;
 import java.util.Arrays;
 import java.util.Random;
 
-/** Runs of calls by a fixed seed, each answer compared with that of Reference. */
+/** Runs of 512 calls by a fixed seed, each answer compared with that of Reference. */
 public final class RandomRunsTest {
+    /** What calls beyond these answer is free. */
+    private static final int CALLS = 512;
+    private static final int STATUS_CALLS = 20;
     private static final int[] EDGES = {
         Integer.MIN_VALUE, -1000000000, -41, -40, -21, -20, -2, -1, 0, 1, 2, 3, 4, 5, 6, 7, 10, 11, 16, 17, 20, 21, 40,
         41, 99, 100, 214748365, 1000000000, Integer.MAX_VALUE
@@ -13,6 +16,8 @@ public final class RandomRunsTest {
     private final GameTables program = new GameTables();
     private final Reference reference = new Reference();
     private final StringBuilder calls = new StringBuilder();
+    private int made = 0;
+    private int most = CALLS - STATUS_CALLS;
     private int wrong = 0;
 
     private RandomRunsTest(long seed) {
@@ -34,13 +39,14 @@ public final class RandomRunsTest {
         // Few different pays make ties, and so the degenerate corners, common.
         int span = new int[] {0, 1, 2, 3, 20}[random.nextInt(5)];
         layGame(span);
-        for (int call = 0; call < 120 && wrong == 0; call++) {
+        while (made < most && wrong == 0) {
             if (random.nextInt(30) == 0) {
                 layGame(span);
             }
             step(span);
         }
-        for (int what = 0; what < 20 && wrong == 0; what++) {
+        most = CALLS;
+        for (int what = 0; what < STATUS_CALLS && wrong == 0; what++) {
             call("status", what);
         }
         return wrong;
@@ -161,9 +167,10 @@ public final class RandomRunsTest {
     }
 
     private void call(String name, int... a) {
-        if (wrong > 0) {
+        if (wrong > 0 || made == most) {
             return;
         }
+        made++;
         calls.append(name).append(Arrays.toString(a)).append('\n');
         long got = ask(program, name, a);
         long due = ask(reference, name, a);
