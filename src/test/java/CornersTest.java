@@ -14,6 +14,7 @@ public final class CornersTest extends Checks {
         cornersWithManyTies();
         cornersByTheWords();
         cornersFollowThePays();
+        cornersFirstAskedForLate();
         cornersRefused();
         cornersNumbered();
         corner();
@@ -26,6 +27,7 @@ public final class CornersTest extends Checks {
         balanceMeansFollowThePays();
         balanceGreatMeans();
         balanceRefused();
+        kindThatFitsFirst();
         firm();
         pure();
         full();
@@ -204,6 +206,27 @@ public final class CornersTest extends Checks {
         due(3, x.corners(0));
         x.game(2, 2);
         due(2, x.corners(0));
+    }
+
+    private static void cornersFirstAskedForLate() {
+        sentence("to no choice to which it gives none, and to which all the other's ANSWERS to it are ANSWERS, too.");
+        // Whatever the last call ahead of the question was.
+        for (int last = 0; last < 6; last++) {
+            GameTables x = new GameTables();
+            due(1, x.corners(0));
+            lay(x, new int[][] {{3, 1}, {0, 2}}, new int[][] {{2, 1}, {0, 3}});
+            switch (last) {
+                case 0: due(1, x.raise(0, 0, 1)); break;
+                case 1: due(1, x.scale(1, 2)); break;
+                case 2: due(1, x.turn()); break;
+                case 3: due(0, x.weight(0, 0, 1)); break;
+                case 4: due(-6, x.raise(0, 0, 40)); break;
+                default: due(-6, x.game(5, 5)); break;
+            }
+            due(3, x.corners(0));
+            due(3, x.corners(1));
+            due(3, x.balances());
+        }
     }
 
     private static void cornersRefused() {
@@ -387,6 +410,28 @@ public final class CornersTest extends Checks {
             due(LONGS + 2, x.balance(2, what));
         }
         dueCounts(x, 12, 10, 0, 0, 0, 0);
+    }
+
+    private static void kindThatFitsFirst() {
+        sentence("KIND, the first that fits:");
+        // Of one choice each all kinds fit.
+        due(4, new GameTables().balance(0, 2));
+        // Two single choices that are not the only answers: 3, 1 and 0 fit.
+        GameTables x = new GameTables();
+        x.game(2, 2);
+        due(3, x.balance(0, 2));
+        // All of two choices each: 2, 1 and 0 fit.
+        lay(x, new int[][] {{1, -1}, {-1, 1}}, new int[][] {{-1, 1}, {1, -1}});
+        due(2, x.balance(0, 2));
+        // Two of three choices each: 1 and 0 fit.
+        lay(x,
+            new int[][] {{1, -1, 9}, {-1, 1, 9}, {-9, -9, 8}},
+            new int[][] {{-1, 1, -9}, {1, -1, -9}, {9, 9, 8}});
+        due(1, x.balances());
+        due(1, x.balance(0, 2));
+        // One against two: 0 alone fits.
+        lay(x, new int[][] {{1, 0}, {0, 1}}, new int[][] {{0, 0}, {0, 1}});
+        due(0, x.balance(1, 2));
     }
 
     private static void firm() {

@@ -10,6 +10,8 @@ public final class LimitsTest extends Checks {
         allCallsAnswered();
         cornersFoundAgainEachTime();
         roomOfTheDearestCalls();
+        laterCallsEnd();
+        anyArgumentsEnd();
         objectsApart();
         sameCallsSameAnswers();
         end();
@@ -72,6 +74,59 @@ public final class LimitsTest extends Checks {
             // All places in turn; 32 and 41 have no common factor, so each game is another.
             x.pay(step % 2, step / 2 % 4, step / 8 % 4, step * 17 % 41 - 20);
             x.balances();
+        }
+    }
+
+    private static void laterCallsEnd() {
+        sentence("what later calls answer is free.");
+        // Free, but LANGUAGE.md wants them to end without a throw.
+        GameTables x = new GameTables();
+        for (int call = 0; call < 10 * CALLS; call++) {
+            callAll(x, call % 3, call % 5, call % 7 - 1, call % 43 - 21);
+        }
+    }
+
+    private static void anyArgumentsEnd() {
+        sentence("nothing changes but how many there were):");
+        int[] edges = {Integer.MIN_VALUE, -21, -1, 0, 1, 2, 3, 4, 5, 69, 100, Integer.MAX_VALUE};
+        for (int state = 0; state < 4; state++) {
+            GameTables x = new GameTables();
+            x.game(state == 1 ? 4 : 1 + state % 3, state == 2 ? 4 : 1 + state);
+            weigh(x, 0, state, 0, 1, 1);
+            for (int place = 0; place < edges.length * edges.length * edges.length * edges.length; place++) {
+                int a = edges[place % edges.length];
+                int b = edges[place / edges.length % edges.length];
+                int c = edges[place / edges.length / edges.length % edges.length];
+                int d = edges[place / edges.length / edges.length / edges.length];
+                callAll(x, a, b, c, d);
+            }
+        }
+    }
+
+    private static void callAll(GameTables x, int a, int b, int c, int d) {
+        x.pay(a, b, c, d);
+        x.paid(a, b, c);
+        x.weight(a, b, d);
+        x.mean(a, b);
+        x.answers(a);
+        x.is();
+        x.why();
+        x.worse(a, b);
+        x.left(a);
+        x.times();
+        x.sure(a);
+        x.hold(a);
+        x.corners(a);
+        x.corner(a, b, c, d);
+        x.balances();
+        x.balance(a, b);
+        x.find();
+        x.raise(a, b, d);
+        x.scale(a, d);
+        x.status(d);
+        if (a == d) {
+            x.game(b, c);
+            x.turn();
         }
     }
 

@@ -328,7 +328,9 @@ public final class MeansTest extends Checks {
         for (int choice : new int[] {2, 3, 4, -1, MIN, MAX}) {
             due(-1, x.worse(1, choice));
         }
+        sentence("The first choice of WHO by which one is WORSE; -9 without. -1.");
         due(-9, x.worse(0, 3));
+        due(-9, x.worse(1, 1));
         dueCounts(x, 14, 0, 0, 0, 0, 0);
         due(-5, x.find());
         dueCounts(x, 14, 0, 0, 0, 1, 0);
