@@ -8,6 +8,7 @@ public final class MeansTest extends Checks {
         answersOfAll();
         answersRefused();
         is();
+        isByEachOnesOwnPays();
         isWithoutMixes();
         why();
         whyFirstChoice();
@@ -164,6 +165,27 @@ public final class MeansTest extends Checks {
         x.pay(1, 0, 0, 1);
         due(1, x.is());
         dueCounts(x, 0, 0, 0, 0, 0, 0);
+    }
+
+    private static void isByEachOnesOwnPays() {
+        sentence("Whether the MIXES of the TRAY are a BALANCE: 1; 0.");
+        // One has all choices alike, the other a best one, which is no matter of the first one's pays.
+        for (int who = 0; who < 2; who++) {
+            for (int best = 0; best < 3; best++) {
+                GameTables x = new GameTables();
+                x.game(3, 3);
+                for (int others = 0; others < 3; others++) {
+                    x.pay(who, who == 0 ? best : others, who == 0 ? others : best, 1);
+                }
+                weigh(x, 1 - who, 1, 2, 3);
+                for (int choice = 0; choice < 3; choice++) {
+                    x.weight(who, choice, 1);
+                    due(choice == best ? 1 : 0, x.is());
+                    due(choice == best ? -9 : 10 * who + choice, x.why());
+                    x.weight(who, choice, 0);
+                }
+            }
+        }
     }
 
     private static void isWithoutMixes() {
