@@ -1,11 +1,15 @@
 import java.util.ArrayList;
+import java.util.Arrays;
 import java.util.List;
 import java.util.Random;
 
 /** Promises 15 to 19: corners, the balances made of them, and which one the tray is. */
 public final class CornersTest extends Checks {
-    /** The shares of games with pays 0 and 1 and three choices at most are all whole 60ths. */
-    private static final int WHOLE = 60;
+    /**
+     * No common denominator of a corner's shares is greater if all pays are 0 or 1: they add up to
+     * four determinants, or fewer, of three lines of -1, 0 and 1, and none of these is above 4.
+     */
+    private static final int WHOLE = 16;
 
     public static void main(String[] args) {
         cornersFewest();
@@ -100,51 +104,103 @@ public final class CornersTest extends Checks {
     private static void cornersByTheWords() {
         sentence("A MIX of WHO is a CORNER if there is no other MIX of WHO that gives SHARES above 0");
         Random random = new Random(5);
-        for (int game = 0; game < 200; game++) {
-            int[][] columns = new int[1 + random.nextInt(3)][1 + random.nextInt(4)];
-            for (int[] line : columns) {
-                for (int k = 0; k < line.length; k++) {
-                    line[k] = random.nextInt(2);
-                }
+        List<List<int[]>> mixes = List.of(mixesOf(1), mixesOf(2), mixesOf(3), mixesOf(4));
+        for (int game = 0; game < 400; game++) {
+            int who = game % 2;
+            int[][] others = game % 4 < 2 ? anyPays(random) : nearlyOwnPays(random);
+            GameTables x = gameOf(new int[others.length][others[0].length], others);
+            if (who == 1) {
+                x.turn();
             }
-            GameTables x = gameOf(new int[columns.length][columns[0].length], columns);
-            List<int[]> corners = cornersAmong(sixtieths(columns.length), columns);
-            due(corners.size(), x.corners(0));
+            List<int[]> corners = cornersAmong(mixes.get(others.length - 1), others);
+            due(corners.size(), x.corners(who));
             for (int c = 0; c < corners.size(); c++) {
-                for (int i = 0; i < columns.length; i++) {
-                    due(corners.get(c)[i] * x.corner(0, c, i, 1), WHOLE * x.corner(0, c, i, 0));
+                for (int i = 0; i < others.length; i++) {
+                    int whole = Arrays.stream(corners.get(c)).sum();
+                    due(corners.get(c)[i] * x.corner(who, c, i, 1), whole * x.corner(who, c, i, 0));
                 }
             }
         }
     }
 
-    /** All mixes in whole 60ths, those with the greater first shares ahead. */
-    private static List<int[]> sixtieths(int choices) {
-        List<int[]> mixes = new ArrayList<>();
-        for (int first = WHOLE; first >= 0; first--) {
-            for (int second = WHOLE - first; second >= 0; second--) {
-                int third = WHOLE - first - second;
-                if ((choices > 2 || third == 0) && (choices > 1 || second == 0)) {
-                    mixes.add(new int[] {first, second, third});
-                }
+    private static int[][] anyPays(Random random) {
+        int[][] pays = new int[1 + random.nextInt(4)][1 + random.nextInt(4)];
+        for (int[] line : pays) {
+            for (int k = 0; k < line.length; k++) {
+                line[k] = random.nextInt(2);
             }
         }
+        return pays;
+    }
+
+    /** Each choice has an answer of its own, but for a few changes, so that all may have shares. */
+    private static int[][] nearlyOwnPays(Random random) {
+        int[][] pays = new int[4][4];
+        for (int i = 0; i < 4; i++) {
+            pays[i][i] = 1;
+        }
+        for (int change = random.nextInt(5); change > 0; change--) {
+            pays[random.nextInt(4)][random.nextInt(4)] ^= 1;
+        }
+        return pays;
+    }
+
+    /** All mixes with a common denominator up to WHOLE, those with the greater first shares ahead. */
+    private static List<int[]> mixesOf(int choices) {
+        List<int[]> mixes = new ArrayList<>();
+        int most = WHOLE + 1;
+        for (int place = 1; place < most * most * most * most; place++) {
+            int[] mix = {place % most, place / most % most, place / most / most % most, place / most / most / most};
+            if (Arrays.stream(mix).sum() <= WHOLE && used(mix) < 1 << choices && commonFactor(mix) == 1) {
+                mixes.add(mix);
+            }
+        }
+        mixes.sort(CornersTest::greaterShareFirst);
         return mixes;
     }
 
-    /** Word by word; it is enough to look among mixes that hold all corners there can be. */
-    private static List<int[]> cornersAmong(List<int[]> mixes, int[][] columns) {
-        int[][] mixesLike = new int[16][16];
+    private static int commonFactor(int[] mix) {
+        int common = 0;
+        for (int part : mix) {
+            for (int rest = part; rest != 0;) {
+                int next = common % rest;
+                common = rest;
+                rest = next;
+            }
+        }
+        return common;
+    }
+
+    private static int greaterShareFirst(int[] a, int[] b) {
+        int wholeA = Arrays.stream(a).sum();
+        int wholeB = Arrays.stream(b).sum();
+        for (int i = 0; i < a.length; i++) {
+            if (a[i] * wholeB != b[i] * wholeA) {
+                return b[i] * wholeA - a[i] * wholeB;
+            }
+        }
+        return 0;
+    }
+
+    /**
+     * Word by word. If there is another mix for one, there is one among the corners, for the mixes
+     * that the words allow have ends, which are corners; so it is enough to look among mixes that
+     * hold all corners there can be.
+     */
+    private static List<int[]> cornersAmong(List<int[]> mixes, int[][] others) {
+        int[] like = new int[256];
         for (int[] mix : mixes) {
-            mixesLike[used(mix)][answersTo(mix, columns)]++;
+            like[16 * used(mix) + answersTo(mix, others)]++;
         }
         List<int[]> corners = new ArrayList<>();
         for (int[] mix : mixes) {
+            int used = used(mix);
+            int answers = answersTo(mix, others);
             int fitting = 0;
             for (int other = 0; other < 256; other++) {
-                boolean usesNoMore = (other / 16 & ~used(mix)) == 0;
-                boolean keepsAnswers = (answersTo(mix, columns) & ~(other % 16)) == 0;
-                fitting += usesNoMore && keepsAnswers ? mixesLike[other / 16][other % 16] : 0;
+                boolean usesNoMore = (other / 16 & ~used) == 0;
+                boolean keepsAnswers = (answers & ~(other % 16)) == 0;
+                fitting += usesNoMore && keepsAnswers ? like[other] : 0;
             }
             if (fitting == 1) {
                 corners.add(mix);
@@ -161,13 +217,13 @@ public final class CornersTest extends Checks {
         return bits;
     }
 
-    private static int answersTo(int[] mix, int[][] columns) {
+    private static int answersTo(int[] mix, int[][] others) {
         int most = -1;
         int bits = 0;
-        for (int k = 0; k < columns[0].length; k++) {
+        for (int k = 0; k < others[0].length; k++) {
             int worth = 0;
-            for (int i = 0; i < columns.length; i++) {
-                worth += mix[i] * columns[i][k];
+            for (int i = 0; i < others.length; i++) {
+                worth += mix[i] * others[i][k];
             }
             bits = worth > most ? 1 << k : worth == most ? bits | 1 << k : bits;
             most = Math.max(most, worth);
